@@ -71,8 +71,9 @@ public final class LevelTest {
         Check.due("a level that moved", x.level(0, 0, 0), 55);
         x.submit(11, Check.how(0, MatchFloor.MARKET, Check.BUY), 1, 6);
         Check.due("a level that was filled", x.levels(1), 1);
-        // The fill at 80 makes both stops due: id 9 sells 9 to the levels of the buyers.
+        // The fill at 80 makes both stops due; the earlier one sells down to 50, and the other is due no more.
         Check.due("levels(0) after the stop", x.levels(0), 0);
+        Check.due("who still waits", x.order(10, 0), 18);
     }
 
     private static void manyLevels() {

@@ -36,7 +36,7 @@ public final class RandomRunsTest {
         seed = 1000003L * run + 17;
         MatchFloor floor = new MatchFloor();
         Reference reference = new Reference();
-        Shape shape = new Shape(1 + below(60), 1 + below(25), 1 + below(8), below(4));
+        Shape shape = new Shape(1 + below(60), 1 + below(25), 1 + below(8), below(4), below(2) * below(25));
         for (int call = 0; call < CALLS; call++) {
             Asked asked = shape.next();
             String got = Check.answer(() -> asked.of(floor));
@@ -49,19 +49,23 @@ public final class RandomRunsTest {
         return true;
     }
 
-    /** What kind of run it is: few or many ids, prices and owners, small or large quantities. */
-    private record Shape(int ids, int prices, int owners, int size) {
+    /**
+     * What kind of run it is: few or many ids, prices and owners, small or large quantities, and how far
+     * sellers ask above what buyers bid: without such a gap the book never gets deep.
+     */
+    private record Shape(int ids, int prices, int owners, int size, int gap) {
         Asked next() {
             int luck = below(100);
             if (luck < 45) {
-                int how = below(50) == 0 ? about(0, 127) : Check.how(below(owners), kind(), below(2));
-                return new Asked(0, below(ids), how, price(), quantity());
+                int side = below(2);
+                int how = below(50) == 0 ? about(0, 127) : Check.how(below(owners), kind(), side);
+                return new Asked(0, below(ids), how, price(side), quantity());
             }
             if (luck < 49) {
                 return new Asked(1, below(ids), 0, 0, 0);
             }
             if (luck < 60) {
-                return new Asked(2, below(ids), price(), quantity(), 0);
+                return new Asked(2, below(ids), price(below(2)), quantity(), 0);
             }
             if (luck < 61) {
                 return new Asked(3, about(0, 7), 0, 0, 0);
@@ -77,14 +81,14 @@ public final class RandomRunsTest {
             };
         }
 
-        private static int kind() {
-            int luck = below(10);
-            return luck < 6 ? luck : luck < 8 ? MatchFloor.LIMIT : MatchFloor.STOP;
+        private int kind() {
+            int luck = below(gap == 0 ? 10 : 30);
+            return luck < 6 ? luck : luck == 6 ? MatchFloor.STOP : MatchFloor.LIMIT;
         }
 
-        private int price() {
-            int base = size == 3 ? 10000 - prices + 1 : 1 + size * 100;
-            return below(60) == 0 ? about(1, 10000) : base + below(prices);
+        private int price(int side) {
+            int base = size == 3 ? 10000 - prices - gap + 1 : 1 + size * 100;
+            return below(60) == 0 ? about(1, 10000) : base + below(prices) + side * gap;
         }
 
         private int quantity() {

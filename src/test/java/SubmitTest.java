@@ -120,8 +120,12 @@ public final class SubmitTest {
         Check.due("the fortieth again", x.submit(50, LIMIT_SELL, 100, 1), 0);
         Check.due("figure(0)", x.figure(0), 40);
         x.cancel(39);
-        Check.due("a due stop frees its place", x.submit(51, Check.how(1, MatchFloor.MARKET, Check.BUY), 1, 1), 1);
-        Check.due("figure(0)", x.figure(0), 39);
+        Check.due("a market order that fills two", x.submit(51, Check.how(1, MatchFloor.MARKET, Check.BUY), 1, 4), 4);
+        Check.due("figure(0)", x.figure(0), 37);
+        for (int id = 60; id < 63; id++) {
+            Check.due("their places are free", x.submit(id, LIMIT_SELL, 300, 1), 0);
+        }
+        Check.dueThrow("the forty-first", Check.STATE, () -> x.submit(63, LIMIT_SELL, 300, 1));
     }
 
     private static void aFullFloorRefusesEveryKind() {
