@@ -15,18 +15,10 @@ public final class AmendTest {
         Check.end();
     }
 
-    private static int limit(MatchFloor x, int id, int owner, int side, int price, int quantity) {
-        return x.submit(id, Check.how(owner, MatchFloor.LIMIT, side), price, quantity);
-    }
-
-    private static int stop(MatchFloor x, int id, int owner, int side, int price, int quantity) {
-        return x.submit(id, Check.how(owner, MatchFloor.STOP, side), price, quantity);
-    }
-
     private static MatchFloor twoSellers() {
         MatchFloor x = new MatchFloor();
-        limit(x, 1, 0, Check.SELL, 10, 5);
-        limit(x, 2, 1, Check.SELL, 10, 5);
+        Floors.limit(x, 1, 0, Check.SELL, 10, 5);
+        Floors.limit(x, 2, 1, Check.SELL, 10, 5);
         return x;
     }
 
@@ -45,7 +37,7 @@ public final class AmendTest {
         MatchFloor x = twoSellers();
         Check.due("one more", x.amend(1, 10, 6), 0);
         Check.due("view", Check.view(x, 1, 2), "buy sell 10/11/2 #1 1 10 6 1 #2 17 10 5 0 fills 0 last 0 turnover 0 figures 2 0 0 0 0");
-        limit(x, 3, 2, Check.BUY, 10, 1);
+        Floors.limit(x, 3, 2, Check.BUY, 10, 1);
         Check.due("it is the left quantity that counts", x.amend(2, 10, 5), 0);
         Check.due("order(2, 3)", x.order(2, 3), 1);
     }
@@ -62,26 +54,27 @@ public final class AmendTest {
 
     private static void aMovedOrderIsMatched() {
         MatchFloor x = twoSellers();
-        limit(x, 3, 2, Check.BUY, 9, 8);
+        Floors.limit(x, 3, 2, Check.BUY, 9, 8);
         Check.due("a better price that does not fit", x.amend(3, 9, 9), 0);
         Check.due("one that fits, and has a rest", x.amend(3, 10, 12), 10);
-        Check.due("view", Check.view(x, 3), "buy 10/2/1 sell #3 32 10 2 0 fills 2 (3 2 10 5) (3 1 10 5) last 10 turnover 100 figures 1 0 0 0 10");
-        limit(x, 4, 0, Check.SELL, 20, 3);
+        Check.due("view", Check.view(x, 3), "buy 10/2/1 sell #3 32 10 2 0"
+                + " fills 2 (3 2 10 5) (3 1 10 5) last 10 turnover 100 figures 1 0 0 0 10");
+        Floors.limit(x, 4, 0, Check.SELL, 20, 3);
         Check.due("one that fits, and has none", x.amend(4, 1, 2), 2);
         Check.due("figure(0)", x.figure(0), 0);
     }
 
     private static void aMovedOrderMakesStopsDue() {
         MatchFloor x = twoSellers();
-        stop(x, 3, 3, Check.SELL, 10, 50);
-        limit(x, 4, 2, Check.BUY, 9, 1);
+        Floors.stop(x, 3, 3, Check.SELL, 10, 50);
+        Floors.limit(x, 4, 2, Check.BUY, 9, 1);
         Check.due("filled before stops", x.amend(4, 10, 14), 10);
         Check.due("view", Check.view(x), "buy sell fills 3 (3 4 10 4) (4 2 10 5) (4 1 10 5) last 10 turnover 140 figures 0 0 1 0 14");
     }
 
     private static void aMovedOrderMayMeetItsOwner() {
         MatchFloor x = twoSellers();
-        limit(x, 3, 0, Check.BUY, 9, 4);
+        Floors.limit(x, 3, 0, Check.BUY, 9, 4);
         Check.due("past its owner's", x.amend(3, 10, 4), 4);
         Check.due("view", Check.view(x, 2), "buy sell 10/1/1 #2 17 10 1 0 fills 1 (3 2 10 4) last 10 turnover 40 figures 1 0 0 1 4");
     }
@@ -94,8 +87,8 @@ public final class AmendTest {
 
     private static void aWaitingOrderWaitsAnew() {
         MatchFloor x = new MatchFloor();
-        stop(x, 1, 0, Check.BUY, 50, 5);
-        stop(x, 2, 1, Check.SELL, 50, 5);
+        Floors.stop(x, 1, 0, Check.BUY, 50, 5);
+        Floors.stop(x, 2, 1, Check.SELL, 50, 5);
         Check.due("order(2, 3)", x.order(2, 3), 1);
         Check.due("the same price and quantity", x.amend(1, 50, 5), 0);
         Check.due("order(1, 3)", x.order(1, 3), 1);
@@ -107,8 +100,8 @@ public final class AmendTest {
 
     private static void aWaitingOrderMayBeDue() {
         MatchFloor x = twoSellers();
-        limit(x, 3, 2, Check.BUY, 10, 1);
-        stop(x, 4, 3, Check.BUY, 11, 2);
+        Floors.limit(x, 3, 2, Check.BUY, 10, 1);
+        Floors.stop(x, 4, 3, Check.BUY, 11, 2);
         Check.due("still not due", x.amend(4, 12, 2), 0);
         Check.due("figure(1)", x.figure(1), 1);
         Check.due("due now", x.amend(4, 10, 3), 0);
@@ -118,7 +111,7 @@ public final class AmendTest {
     private static void aFullFloorMayBeAmended() {
         MatchFloor x = new MatchFloor();
         for (int id = 0; id < 40; id++) {
-            limit(x, id, 0, Check.BUY, 100, 1);
+            Floors.limit(x, id, 0, Check.BUY, 100, 1);
         }
         Check.due("amend(7, 100, 2)", x.amend(7, 100, 2), 0);
         Check.due("order(7, 3)", x.order(7, 3), 39);
@@ -128,8 +121,8 @@ public final class AmendTest {
 
     private static void wrongCallsChangeNothing() {
         MatchFloor x = twoSellers();
-        stop(x, 3, 3, Check.BUY, 50, 5);
-        limit(x, 4, 3, Check.BUY, 5, 5);
+        Floors.stop(x, 3, 3, Check.BUY, 50, 5);
+        Floors.limit(x, 4, 3, Check.BUY, 5, 5);
         String before = Check.view(x, 1, 2, 3, 4);
         int[] ids = {1, 3, 9};
         int[] prices = {0, -1, 10001, Integer.MIN_VALUE, Integer.MAX_VALUE};

@@ -47,6 +47,36 @@ final class Check {
         }
     }
 
+    /** All four answers about a kept order. */
+    static void dueOrder(String when, MatchFloor x, int id, int... want) {
+        for (int what = 0; what < 4; what++) {
+            due(when + ": order(" + id + ", " + what + ")", x.order(id, what), want[what]);
+        }
+    }
+
+    /** No kept order has this id, whoever asks. */
+    static void dueGone(String when, MatchFloor x, int id) {
+        for (int what = 0; what < 4; what++) {
+            int asked = what;
+            dueThrow(when + ": order(" + id + ", " + what + ")", ELEMENT, () -> x.order(id, asked));
+        }
+        dueThrow(when + ": cancel(" + id + ")", ELEMENT, () -> x.cancel(id));
+        dueThrow(when + ": amend(" + id + ", 1, 1)", ELEMENT, () -> x.amend(id, 1, 1));
+    }
+
+    /** All four answers about the fill k before the latest one. */
+    static void dueFill(String when, MatchFloor x, int k, int... want) {
+        for (int what = 0; what < 4; what++) {
+            due(when + ": fill(" + k + ", " + what + ")", x.fill(k, what), want[what]);
+        }
+    }
+
+    static void dueFigures(String when, MatchFloor x, int... want) {
+        for (int k = 0; k < 5; k++) {
+            due(when + ": figure(" + k + ")", x.figure(k), want[k]);
+        }
+    }
+
     /** The answer as a text, with an exception told as in the issues. */
     static String answer(Call made) {
         try {

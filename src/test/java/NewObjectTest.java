@@ -1,36 +1,58 @@
 /** Promise 1: nothing is kept, there was no fill. */
 public final class NewObjectTest {
+    private static final int[] ANY_INTS = {Integer.MIN_VALUE, -1, 0, 1, 31, 32, 39, 40, Integer.MAX_VALUE};
+
     public static void main(String[] args) {
-        MatchFloor x = new MatchFloor();
-        Check.due("levels(0)", x.levels(0), 0);
-        Check.due("levels(1)", x.levels(1), 0);
-        Check.due("fills()", x.fills(), 0);
-        Check.due("last()", x.last(), 0);
-        Check.due("turnover()", x.turnover(), 0);
-        for (int k = 0; k < 5; k++) {
-            Check.due("figure(" + k + ")", x.figure(k), 0);
-        }
-        Check.dueThrow("level(0, 0, 0)", Check.INDEX, () -> x.level(0, 0, 0));
-        Check.dueThrow("level(1, 0, 0)", Check.INDEX, () -> x.level(1, 0, 0));
-        Check.dueThrow("fill(0, 0)", Check.INDEX, () -> x.fill(0, 0));
-        Check.dueThrow("order(0, 0)", Check.ELEMENT, () -> x.order(0, 0));
-        Check.dueThrow("cancel(0)", Check.ELEMENT, () -> x.cancel(0));
-        Check.dueThrow("amend(0, 1, 1)", Check.ELEMENT, () -> x.amend(0, 1, 1));
-        for (int owner = 0; owner < 8; owner++) {
-            Check.due("withdraw(" + owner + ")", x.withdraw(owner), 0);
-        }
+        nothingIsKept();
+        noIdIsKept();
+        thereWasNoFill();
         objectsShareNothing();
         Check.end();
     }
 
+    private static void nothingIsKept() {
+        MatchFloor x = new MatchFloor();
+        for (int side = 0; side < 2; side++) {
+            int asked = side;
+            Check.due("levels(" + side + ")", x.levels(side), 0);
+            for (int k : ANY_INTS) {
+                Check.dueThrow("level(" + side + ", " + k + ", 0)", Check.INDEX, () -> x.level(asked, k, 0));
+                Check.dueThrow("level(" + side + ", " + k + ", 2)", Check.INDEX, () -> x.level(asked, k, 2));
+            }
+        }
+        for (int owner = 0; owner < 8; owner++) {
+            Check.due("withdraw(" + owner + ")", x.withdraw(owner), 0);
+        }
+        Check.dueFigures("a new object", x, 0, 0, 0, 0, 0);
+    }
+
+    /** 0 among them, the value that a field has before anything is put there. */
+    private static void noIdIsKept() {
+        MatchFloor x = new MatchFloor();
+        for (int id : ANY_INTS) {
+            Check.dueGone("a new object", x, id);
+        }
+    }
+
+    private static void thereWasNoFill() {
+        MatchFloor x = new MatchFloor();
+        for (int k : ANY_INTS) {
+            for (int what = 0; what < 4; what++) {
+                int asked = what;
+                Check.dueThrow("fill(" + k + ", " + what + ")", Check.INDEX, () -> x.fill(k, asked));
+            }
+        }
+        Check.due("fills()", x.fills(), 0);
+        Check.due("last()", x.last(), 0);
+        Check.due("turnover()", x.turnover(), 0);
+    }
+
     private static void objectsShareNothing() {
-        MatchFloor used = new MatchFloor();
-        used.submit(1, Check.how(0, MatchFloor.LIMIT, Check.SELL), 10, 5);
-        used.submit(2, Check.how(1, MatchFloor.LIMIT, Check.BUY), 10, 3);
-        MatchFloor fresh = new MatchFloor();
-        Check.due("a fresh object's view", Check.view(fresh, 1),
-                "buy sell #1 throws.NoSuchElementException throws.NoSuchElementException"
-                + " throws.NoSuchElementException throws.NoSuchElementException"
-                + " fills 0 last 0 turnover 0 figures 0 0 0 0 0");
+        MatchFloor early = new MatchFloor();
+        String before = Check.view(early, 1, 2);
+        MatchFloor used = Floors.busy();
+        Check.due("figure(0) of the used one", used.figure(0), 7);
+        Check.due("view of one made before", Check.view(early, 1, 2), before);
+        Check.due("view of one made after", Check.view(new MatchFloor(), 1, 2), before);
     }
 }

@@ -59,24 +59,24 @@ public final class RandomRunsTest {
             if (luck < 45) {
                 int side = below(2);
                 int how = below(50) == 0 ? about(0, 127) : Check.how(below(owners), kind(), side);
-                return new Asked(0, below(ids), how, price(side), quantity());
+                return new Asked(Asked.SUBMIT, below(ids), how, price(side), quantity());
             }
             if (luck < 49) {
-                return new Asked(1, below(ids), 0, 0, 0);
+                return new Asked(Asked.CANCEL, below(ids), 0, 0, 0);
             }
             if (luck < 60) {
-                return new Asked(2, below(ids), price(below(2)), quantity(), 0);
+                return new Asked(Asked.AMEND, below(ids), price(below(2)), quantity(), 0);
             }
             if (luck < 61) {
-                return new Asked(3, about(0, 7), 0, 0, 0);
+                return new Asked(Asked.WITHDRAW, about(0, 7), 0, 0, 0);
             }
-            int method = 4 + below(8);
+            int method = Asked.LEVELS + below(8);
             return switch (method) {
-                case 4 -> new Asked(4, about(0, 1), 0, 0, 0);
-                case 5 -> new Asked(5, about(0, 1), about(0, 3), about(0, 2), 0);
-                case 6 -> new Asked(6, below(ids), about(0, 3), 0, 0);
-                case 7 -> new Asked(7, below(4) == 0 ? about(0, 31) : about(0, 3), about(0, 3), 0, 0);
-                case 11 -> new Asked(11, about(0, 4), 0, 0, 0);
+                case Asked.LEVELS -> new Asked(Asked.LEVELS, about(0, 1), 0, 0, 0);
+                case Asked.LEVEL -> new Asked(Asked.LEVEL, about(0, 1), about(0, 3), about(0, 2), 0);
+                case Asked.ORDER -> new Asked(Asked.ORDER, below(ids), about(0, 3), 0, 0);
+                case Asked.FILL -> new Asked(Asked.FILL, below(4) == 0 ? about(0, 31) : about(0, 3), about(0, 3), 0, 0);
+                case Asked.FIGURE -> new Asked(Asked.FIGURE, about(0, 4), 0, 0, 0);
                 default -> new Asked(method, 0, 0, 0, 0);
             };
         }
@@ -93,42 +93,6 @@ public final class RandomRunsTest {
 
         private int quantity() {
             return below(60) == 0 ? about(1, 1000000) : 1 + below(size == 0 ? 3 : size == 1 ? 30 : 1000000);
-        }
-    }
-
-    private record Asked(int method, int a, int b, int c, int d) {
-        long of(MatchFloor x) {
-            return switch (method) {
-                case 0 -> x.submit(a, b, c, d);
-                case 1 -> x.cancel(a);
-                case 2 -> x.amend(a, b, c);
-                case 3 -> x.withdraw(a);
-                case 4 -> x.levels(a);
-                case 5 -> x.level(a, b, c);
-                case 6 -> x.order(a, b);
-                case 7 -> x.fill(a, b);
-                case 8 -> x.fills();
-                case 9 -> x.last();
-                case 10 -> x.turnover();
-                default -> x.figure(a);
-            };
-        }
-
-        long of(Reference x) {
-            return switch (method) {
-                case 0 -> x.submit(a, b, c, d);
-                case 1 -> x.cancel(a);
-                case 2 -> x.amend(a, b, c);
-                case 3 -> x.withdraw(a);
-                case 4 -> x.levels(a);
-                case 5 -> x.level(a, b, c);
-                case 6 -> x.order(a, b);
-                case 7 -> x.fill(a, b);
-                case 8 -> x.fills();
-                case 9 -> x.last();
-                case 10 -> x.turnover();
-                default -> x.figure(a);
-            };
         }
     }
 }
